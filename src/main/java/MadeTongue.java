@@ -1098,6 +1098,10 @@ public final class MadeTongue {
         private final int[] sizes = new int[SENTENCES];
         // A WORLD: from the low bits on its set of THINGS, its THINGS one by one, how many they are.
         private final int[] worlds = new int[WORLDS];
+        // What one SENTENCE asks for one CLUB, and for another one.
+        private final int[] banned = new int[2];
+        private final int[] wanted = new int[2 * CLAUSES];
+        private final int[] wants = new int[2];
         private int sentences;
 
         Meanings() {
@@ -1179,33 +1183,51 @@ public final class MadeTongue {
         }
 
         boolean holds(int sentence, int club, int number) {
-            int things = worlds[number] & ALL_KINDS;
-            for (int row = 0; row < sizes[sentence]; row++) {
-                int at = (sentence * CLAUSES + row) * WIDTH;
-                int x = taken[club * Words.ROOTS + clauses[at + 1]] & things;
-                int y = taken[club * Words.ROOTS + clauses[at + 2]];
-                if (!clauseHolds(clauses[at], x, y)) return false;
-            }
-            return true;
-        }
-
-        /** Whether a clause of a sort is true, where the THINGS x of a WORLD are its first ROOT's. */
-        private static boolean clauseHolds(int sort, int x, int y) {
-            if (sort == ALL) return (x & ~y) == 0;
-            return sort == SOME ? (x & y) != 0 : (x & y) == 0;
+            ask(0, sentence, club);
+            return isAnswered(0, number);
         }
 
         int leastDiffering(int sentence, int club, int other) {
+            ask(0, sentence, club);
+            ask(1, sentence, other);
             for (int number = 0; number < WORLDS; number++) {
-                if (holds(sentence, club, number) && !holds(sentence, other, number)) return number;
+                if (isAnswered(0, number) && !isAnswered(1, number)) return number;
             }
             return NONE;
         }
 
         int countTrue(int sentence, int club) {
+            ask(0, sentence, club);
             int count = 0;
-            for (int number = 0; number < WORLDS; number++) if (holds(sentence, club, number)) count++;
+            for (int number = 0; number < WORLDS; number++) if (isAnswered(0, number)) count++;
             return count;
+        }
+
+        /** What a SENTENCE asks of a WORLD for a CLUB: no THING that is banned, one of each set that is wanted. */
+        private void ask(int side, int sentence, int club) {
+            banned[side] = 0;
+            wants[side] = 0;
+            for (int row = 0; row < sizes[sentence]; row++) {
+                int at = (sentence * CLAUSES + row) * WIDTH;
+                int x = taken[club * Words.ROOTS + clauses[at + 1]];
+                int y = taken[club * Words.ROOTS + clauses[at + 2]];
+                if (clauses[at] == SOME) {
+                    wanted[side * CLAUSES + wants[side]] = x & y;
+                    wants[side]++;
+                } else {
+                    banned[side] |= clauses[at] == ALL ? x & ~y : x & y;
+                }
+            }
+        }
+
+        private boolean isAnswered(int side, int number) {
+            // The bits above a WORLD's set of THINGS are in no set that is asked for.
+            int world = worlds[number];
+            if ((world & banned[side]) != 0) return false;
+            for (int k = 0; k < wants[side]; k++) {
+                if ((world & wanted[side * CLAUSES + k]) == 0) return false;
+            }
+            return true;
         }
     }
 
