@@ -20,6 +20,7 @@ public final class PersonsTest {
         knownAsTheMonthBegan();
         manyAtOnce();
         learnedAnew();
+        eachByItself();
         spread();
         c.end("PersonsTest");
     }
@@ -126,6 +127,9 @@ public final class PersonsTest {
         c.due("23 cost of three", c.reform(x, 0, 1, "a"), 7);
         c.due("23 to what it is", c.reform(x, 0, 0, "abc"), 0);
         c.due("23 nothing is done", x.ofRoot(0, 7), 3);
+        x.learn(0, 0, true);
+        c.due("23 cost of four", c.reform(x, 0, 1, "a"), 10);
+        x.learn(0, 0, false);
         c.due("23 to a root that is there", c.reform(x, 0, 1, "z"), 4 + 2 + 2);
     }
 
@@ -327,6 +331,23 @@ public final class PersonsTest {
         c.due("21 it was so", x.learn(1, 0, false), 0);
         c.due("27 nothing changed", x.heard(1, 0), 1);
         c.due("27 one that reads its own", x.heard(0, 0), 0);
+    }
+
+    private static void eachByItself() {
+        MadeTongue x = with(3);
+        x.need(9);
+        for (int root = 0; root < 3; root++) x.learn(2, root, true);
+        x.journal(4, 1);
+        x.month();
+        x.learn(2, 0, false);
+        x.month();
+        x.learn(2, 1, false);
+        x.month();
+        for (int root = 0; root < 3; root++) c.due("27 root " + root, x.heard(0, root), root + 1);
+        for (int root = 0; root < 3; root++) c.due("27 of one that does not read", x.heard(1, root), 0);
+        x.need(3);
+        c.due("26 root 2 alone, that comes a fourth time", x.month(), 1);
+        c.due("22 root 2", x.knows(0), 4);
     }
 
     private static void spread() {

@@ -5,6 +5,7 @@ public final class SheetsTest {
 
     public static void main(String[] args) {
         sheet();
+        longestRows();
         lose();
         put();
         cell();
@@ -40,6 +41,26 @@ public final class SheetsTest {
         x.sheet(0, 1, 2);
         x.sheet(0, 1, 10);
         c.due("45 of zeros, where a shorter one was", x.cell(0, 5, 1), 0);
+        for (int k = 0; k < 4; k++) c.lay(x, k, 2, k + 1);
+        for (int k = 0; k < 4; k++) {
+            x.sheet(k, 2, 60);
+            for (int other = k + 1; other < 4; other++) c.due("45 others stay", x.cell(other, 0, 2), other + 1);
+        }
+    }
+
+    private static void longestRows() {
+        MadeTongue x = new MadeTongue();
+        int[] text = new int[60];
+        for (int i = 0; i < 60; i++) text[i] = "n+n,".charAt(i % 4);
+        c.lay(x, 3, 2, text);
+        c.due("5 sixty codes: one clause too many", x.rule(-1, 0, 0, 3, 2, 0, 60), -115);
+        c.due("5 sixty-one", x.rule(-1, 0, 0, 3, 2, 0, 61), Check.INDEX);
+        c.due("9 sixty cells", x.ways(3, 2, 0, 60), Check.OUTSIDE);
+        c.due("2 sixty cells", x.root(0, 0, 3, 2, 0, 60), Check.OUTSIDE);
+        c.due("13 twenty rows", x.sentence(3, 2, 0, 20), Check.OUTSIDE);
+        c.due("13 twenty-one rows", x.sentence(3, 2, 0, 21), Check.INDEX);
+        c.due("49 sixty cells", x.copy(3, 0, 3, 0, 60), 60);
+        c.due("48 the last", x.cell(3, 59, 2), ',');
     }
 
     private static void lose() {
