@@ -367,7 +367,8 @@ final class WordsBounds {
         Scene most = Scene.NEW.word(3, 2, "abcdefghijklmnopqr").and("ending(0, 0, 3, 2, 16, 1)", "ending(0, 0, 3, 2, 17, 1)")
             .and(rootCalls(16).stream().map(call -> call.replace(", 0, 2, ", ", 3, 2, ")).toList());
         b.due(most.rule(-1, 0, 0, "n+n,n+v,n+a,n+o").word(0, 2, "qrapq"), "ways(0, 2, 0, 1) = 0", "ways(0, 2, 1, 1) = 0",
-            "ways(0, 2, 0, 3) = 0", "ways(0, 2, 2, 3) = 0", "ways(0, 2, 2, 2) = 1", "parse(0, 2, 2, 2, 1) = 15", "parse(0, 2, 0, 1, 0) = NONE");
+            "ways(0, 2, 0, 3) = 0", "ways(0, 2, 2, 3) = 0", "ways(0, 2, 2, 2) = 1", "parse(0, 2, 2, 2, 1) = 15",
+            "parse(0, 2, 0, 1, 0) = NONE");
         b.due(most.word(0, 2, "aqqr"), "ways(0, 2, 0, 4) = 1", "parse(0, 2, 0, 4, 3) = 101");
         // No PART goes beyond the row, though cells behind it would suit.
         b.due(Scene.NEW.roots("abc").word(0, 2, "abc"), "ways(0, 2, 0, 2) = 0", "ways(0, 2, 0, 3) = 1", "parse(0, 2, 0, 2, 0) = NONE");
