@@ -962,37 +962,49 @@ public final class MadeTongue {
      * TWO. Its two WAYS begin with the same PARTS (none, one or two: the HEAD), then take different ones,
      * and come together again at its end, for where they came together earlier a lesser row would end.
      * What comes behind a HEAD depends on the HEAD's CLASS alone, so of each CLASS the least HEAD is enough.
+     * In between one WAY is behind the other by a gap, the last LETTERS of the other's latest PART. What may
+     * come then depends on that PART, the gap's size, the CLASS of the one behind, which one that is, and
+     * how many PARTS are left to the first one: so of each such state the least row is enough.
      */
     private static final class Two {
         static final int LONGEST = 12;
-        private static final int MOST_PARTS = 3, NO_PART = -1, DEEPEST = 30;
+        private static final int MOST_PARTS = 3, NO_PART = -1;
+        // Both WAYS have a PART behind the HEAD as a state is kept, so a gap is less than a whole PART.
+        private static final int WIDEST = Words.LONGEST - 1;
+        // States of one size of gap, and all of them.
+        private static final int BLOCK = CLASSES * 2 * MOST_PARTS * Words.PARTS, STATES = WIDEST * BLOCK;
         // Above every row of LONGEST LETTERS.
         private static final long NO_ROW = 1L << LONGEST * Words.BITS;
 
         private final Words words;
-        // HEADS by CLASS: of one PART, behind them of two. A row is a number, five bits a LETTER.
+        // A row is a number, five bits a LETTER: no LETTER is 0, so numbers stand in the order asked for.
+        // HEADS by CLASS: of one PART, behind them of two.
         private final long[] heads = new long[2 * CLASSES];
-        private final int[] headLengths = new int[2 * CLASSES];
+        private final long[] reached = new long[STATES];
         private int joined;
-        private long row;
-        private int length;
+        private long farthest;
         private long least;
-        private int leastLength;
-        private boolean found;
         private int rootsSeen;
         private int endingsSeen;
 
         Two(Words words) {
             this.words = words;
+            least = NO_ROW;
         }
 
         int lettersOrNone() {
-            return found ? leastLength : NONE;
+            return least == NO_ROW ? NONE : lettersOf(least);
         }
 
         int letterOrNone(int k) {
-            if (!found || k >= leastLength) return NONE;
-            return (int) (least >> (leastLength - 1 - k) * Words.BITS) & Words.LETTER_BITS;
+            if (least == NO_ROW || k >= lettersOf(least)) return NONE;
+            return (int) (least >> (lettersOf(least) - 1 - k) * Words.BITS) & Words.LETTER_BITS;
+        }
+
+        private static int lettersOf(long row) {
+            int size = 0;
+            while (size < LONGEST && row >> size * Words.BITS != 0) size++;
+            return size;
         }
 
         /** Finds TWO, if anything that it depends on has become other since it was found last. */
@@ -1002,87 +1014,85 @@ public final class MadeTongue {
             joined = joinedNow;
             rootsSeen = words.roots();
             endingsSeen = words.endings();
-            found = false;
             least = NO_ROW;
-            leastLength = LONGEST;
+            farthest = 0;
+            for (int at = 0; at < STATES; at++) reached[at] = NO_ROW;
             makeHeads();
-            split(0, 0, Words.START, MOST_PARTS);
+            split(0, Words.START, MOST_PARTS);
             for (int at = 0; at < 2 * CLASSES; at++) {
                 int left = at < CLASSES ? MOST_PARTS - 1 : MOST_PARTS - 2;
-                if (headLengths[at] > 0) split(heads[at], headLengths[at], at % CLASSES, left);
+                if (heads[at] != NO_ROW) split(heads[at], at % CLASSES, left);
+            }
+            // What goes on makes a row longer or a gap less: in this order each state is at its least in its turn.
+            for (int size = 1; size <= LONGEST && size <= lettersOf(Math.min(least, farthest)); size++) {
+                for (int gap = WIDEST; gap > 0; gap--) sweep(size, gap);
             }
         }
 
         private void makeHeads() {
-            for (int at = 0; at < 2 * CLASSES; at++) headLengths[at] = 0;
-            for (int x = 0; x < words.roots(); x++) offerHead(0, 0, x, 0);
+            for (int at = 0; at < 2 * CLASSES; at++) heads[at] = NO_ROW;
+            for (int x = 0; x < words.roots(); x++) offerHead(0, x, 0);
             for (int cls = 0; cls < CLASSES; cls++) {
-                if (headLengths[cls] == 0) continue;
+                if (heads[cls] == NO_ROW) continue;
                 for (int part = 0; part < Words.PARTS; part++) {
-                    if (words.follows(cls, part, joined)) offerHead(heads[cls], headLengths[cls], part, CLASSES);
+                    if (words.follows(cls, part, joined)) offerHead(heads[cls], part, CLASSES);
                 }
             }
         }
 
-        private void offerHead(long start, int startLength, int part, int base) {
-            long head = joinedRow(start, words.codeOf(part), words.sizeOf(part));
-            int headLength = startLength + words.sizeOf(part);
+        private void offerHead(long start, int part, int base) {
             int at = base + words.classAfter(part);
-            boolean less = headLength < headLengths[at] || (headLength == headLengths[at] && head < heads[at]);
-            if (headLengths[at] > 0 && !less) return;
-            heads[at] = head;
-            headLengths[at] = headLength;
+            heads[at] = Math.min(heads[at], rowWith(start, words.codeOf(part), words.sizeOf(part)));
         }
 
-        private static long joinedRow(long start, int code, int size) {
+        private static long rowWith(long start, int code, int size) {
             return start << size * Words.BITS | code >> (Words.LONGEST - size) * Words.BITS;
         }
 
         /** Behind a HEAD the first WAY takes a PART (of those left to it), the second one another. */
-        private void split(long head, int headLength, int cls, int left) {
+        private void split(long head, int cls, int left) {
             for (int part = 0; part < Words.PARTS; part++) {
                 if (!words.follows(cls, part, joined)) continue;
-                if (headLength + words.sizeOf(part) > leastLength) continue;
-                row = joinedRow(head, words.codeOf(part), words.sizeOf(part));
-                length = headLength + words.sizeOf(part);
-                chase(cls, words.classAfter(part), false, left - 1, words.codeOf(part), part, 0);
+                int size = words.sizeOf(part);
+                goOn(rowWith(head, words.codeOf(part), size), part, size, cls, false, left - 1, part);
             }
         }
 
-        /**
-         * One WAY is behind the other by the LETTERS of gap; it takes a PART (any but one), and they meet,
-         * or it is behind by less, or the other one is behind.
-         */
-        private void chase(int behind, int ahead, boolean first, int left, int gap, int but, int depth) {
-            if (depth > DEEPEST || length > leastLength || (first && left < 1)) return;
+        private void sweep(int size, int gap) {
+            for (int k = 0; k < BLOCK; k++) {
+                long row = reached[(gap - 1) * BLOCK + k];
+                if (row == NO_ROW || lettersOf(row) != size) continue;
+                int rest = k / Words.PARTS, turn = rest / MOST_PARTS;
+                goOn(row, k % Words.PARTS, gap, turn % CLASSES, turn >= CLASSES, rest % MOST_PARTS, NO_PART);
+            }
+        }
+
+        /** The WAY that is behind takes a PART (any but one): they meet, or it is behind by less, or the other one is. */
+        private void goOn(long row, int part, int gap, int behind, boolean first, int left, int but) {
+            int open = Words.behind(words.codeOf(part), words.sizeOf(part) - gap);
             int leftThen = first ? left - 1 : left;
-            int gapSize = Words.lengthOf(gap);
-            for (int part = 0; part < Words.PARTS; part++) {
-                if (part == but || !words.follows(behind, part, joined)) continue;
-                int code = words.codeOf(part), size = words.sizeOf(part), cls = words.classAfter(part);
-                if (((code ^ gap) & Words.maskOf(Math.min(size, gapSize))) != 0) continue;
-                if (size == gapSize) {
-                    meet();
-                } else if (size < gapSize) {
-                    chase(cls, ahead, first, leftThen, Words.behind(gap, size), NO_PART, depth + 1);
-                } else if (length + size - gapSize <= leastLength) {
-                    long rowThen = row;
-                    int lengthThen = length;
-                    int more = Words.behind(code, gapSize);
-                    row = joinedRow(row, more, size - gapSize);
-                    length += size - gapSize;
-                    chase(ahead, cls, !first, leftThen, more, NO_PART, depth + 1);
-                    row = rowThen;
-                    length = lengthThen;
+            for (int next = 0; next < Words.PARTS; next++) {
+                if (next == but || !words.follows(behind, next, joined)) continue;
+                int code = words.codeOf(next), size = words.sizeOf(next), over = size - gap;
+                if (((code ^ open) & Words.maskOf(Math.min(size, gap))) != 0) continue;
+                if (over == 0) {
+                    least = Math.min(least, row);
+                } else if (over < 0) {
+                    reach(row, part, -over, words.classAfter(next), first, leftThen);
+                } else {
+                    long longer = rowWith(row, Words.behind(code, gap), over);
+                    reach(longer, next, over, words.classAfter(part), !first, leftThen);
                 }
             }
         }
 
-        private void meet() {
-            if (length > leastLength || (length == leastLength && row >= least)) return;
-            found = true;
-            least = row;
-            leastLength = length;
+        private void reach(long row, int part, int gap, int behind, boolean first, int left) {
+            // The first WAY can't go on with no PART left to it; so no row has more LETTERS than LONGEST.
+            if (first && left < 1) return;
+            int turn = first ? CLASSES + behind : behind;
+            int at = (gap - 1) * BLOCK + (turn * MOST_PARTS + left) * Words.PARTS + part;
+            reached[at] = Math.min(reached[at], row);
+            farthest = Math.max(farthest, row);
         }
     }
 

@@ -184,6 +184,6 @@ public final class LanguageTest {
         MadeTongue[] kept = new MadeTongue[100];
         for (int k = 0; k < kept.length; k++) kept[k] = new MadeTongue();
         long each = (bean.getCurrentThreadAllocatedBytes() - before) / kept.length;
-        c.due("an object is small, but has bytes: " + each, each < 20000);
+        c.due("an object is small, but has bytes: " + each, each < 30000);
     }
 }
